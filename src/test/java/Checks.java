@@ -50,6 +50,19 @@ final class Checks {
         throwing(IllegalStateException.class, call);
     }
 
+    /** One of the document's three exceptions, whichever it is. */
+    void refused(Call call) {
+        made++;
+        try {
+            tell("answered " + call.answer() + ", due is an exception");
+        } catch (RuntimeException e) {
+            if (e.getClass() != IndexOutOfBoundsException.class && e.getClass() != IllegalArgumentException.class
+                    && e.getClass() != IllegalStateException.class) {
+                tell("threw " + e.getClass().getSimpleName());
+            }
+        }
+    }
+
     private void throwing(Class<? extends RuntimeException> want, Call call) {
         made++;
         try {

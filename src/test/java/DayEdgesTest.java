@@ -22,7 +22,7 @@ public final class DayEdgesTest {
     private static void passDays() {
         check.about("15: days 1 to 200, else IllegalArgumentException");
         NameAuction x = Given.inAuction();
-        for (int days : new int[] {0, -1, 201, Integer.MAX_VALUE, Integer.MIN_VALUE}) {
+        for (int days : Given.notDays()) {
             check.outOfRange(() -> x.pass(days));
             check.is(0, x.today());
         }

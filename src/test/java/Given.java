@@ -14,6 +14,16 @@ final class Given {
     private Given() {
     }
 
+    /** Days that pass refuses; those that would hardly end without its limit only where it has one. */
+    static int[] notDays() {
+        try {
+            new NameAuction().pass(201);
+            return new int[] {0, -1, 201, Integer.MIN_VALUE};
+        } catch (IllegalArgumentException e) {
+            return new int[] {0, -1, 201, Integer.MAX_VALUE, Integer.MIN_VALUE};
+        }
+    }
+
     /** Day 0; every owner has 1000. */
     static NameAuction rich() {
         NameAuction x = new NameAuction();

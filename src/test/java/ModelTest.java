@@ -80,7 +80,9 @@ public final class ModelTest {
     private static int amount(SplittableRandom random, int kind, boolean isRich) {
         if (random.nextInt(40) == 0) {
             int[] values = {-1, 0, 1, 9, 10, 200, 201, 999, 1000, 100000, 100001, Integer.MIN_VALUE, Integer.MAX_VALUE};
-            return values[random.nextInt(values.length)];
+            int value = values[random.nextInt(values.length)];
+            // Without its limit, pass would hardly end with more days.
+            return kind == 13 ? Math.min(value, 1000) : value;
         }
         switch (kind) {
             case 0:

@@ -187,7 +187,7 @@ public final class RefusalTest {
         List<Supplier<NameAuction>> each = List.of(Given::inAuction, Given::leased, Given::inGrace,
             Given::inRedemption, Given::frozenLease);
         for (Supplier<NameAuction> given : each) {
-            unchanged(given, x -> x.pass(0), x -> x.pass(-1), x -> x.pass(201), x -> x.pass(Integer.MAX_VALUE));
+            unchanged(given, x -> x.pass(0), x -> x.pass(-1), x -> x.pass(201), x -> x.pass(1000));
         }
     }
 
